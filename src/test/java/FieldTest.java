@@ -301,6 +301,15 @@ public final class FieldTest {
     x.cell(31, 24, 2);
     due("may", x.may(1, 0), 0);
     due("may", x.may(2, 0), 1);
+    int[][] corners = {{0, 0}, {31, 31}, {31, 0}, {0, 31}};
+    for (int[] corner : corners) {
+      LightScript y = new LightScript();
+      y.kind(0, 1, 40, 0, 1010);
+      y.barge(0, corner[0] == 0 ? 1 : 30, corner[1] == 0 ? 1 : 30, 1);
+      due("may", y.may(0, 0), 1);
+      y.cell(corner[0], corner[1], 2);
+      due("may, a crowd in a corner", y.may(0, 0), 0);
+    }
   }
 
   private static void safeAndHotRefused() {
@@ -417,6 +426,14 @@ public final class FieldTest {
     due("hot, 200 to and 95 fro", x.hot(0, 0, 0, 1, 0), 32 * 10 + 11);
     x.wind(1, 0, -6, 0);
     due("hot, 200 to and 114 fro", x.hot(0, 0, 0, 1, 0), 330);
+    // 9 ticks of 11 end just within its cell, those of -11 and one more in the next.
+    x.kind(2, 1, 22, 0, 9010);
+    x.wind(3, 0, 11, 11);
+    due("hot, 99 off", x.hot(2, 0, 0, 3, 0), 330);
+    x.wind(3, 0, -11, -11);
+    due("hot, 99 off", x.hot(2, 0, 0, 3, 0), 330);
+    x.wind(3, 0, -12, 12);
+    due("hot, 108 off", x.hot(2, 0, 0, 3, 0), 32 * 11 + 9);
     // From 2470: 19 ticks in layer 4, 20 in 3, 20 in 2, 20 in 1, 20 in 0.
     x.kind(1, 1, 247, 0, 99010);
     x.wind(2, 4, 6, 0);

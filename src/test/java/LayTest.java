@@ -175,6 +175,12 @@ public final class LayTest {
     x.apart(2);
     due("lay, fixed ones close", x.lay(0), 2);
     dueBarges("fixed ones close", x, 0, 0, 1);
+    write(x, 2, 1, 1, 0, 0, 0, 1, 0, -1, 0, 0);
+    due("lay, close to one fixed", x.lay(0), 1);
+    dueBarges("close to one fixed", x, 0, 1);
+    write(x, 2, 1, 1, 0, -1, 0, 1, 0, 0, 0, 0);
+    due("lay, close to one fixed behind", x.lay(0), 1);
+    dueBarges("close to one fixed behind", x, 1, 0);
     write(x, 2, 1, 1, 0, -1, 0, 8, 1, 2, 1, 1, 0, 1, 0, 1, 0, 0, 0, 0);
     due("lay, an open one before fixed ones", x.lay(0), -3);
     x.apart(1);

@@ -49,6 +49,8 @@ public final class SeenTest {
     chains();
     theGreatestIsFound();
     kindTheyHave();
+    eachColour();
+    eachAskedFirst();
     asStretched();
     full();
     System.out.println(wrong == 0 ? "all answers are as due" : wrong + " answers are not as due");
@@ -232,6 +234,43 @@ public final class SeenTest {
     dueDuds("late as its own kind", x, 0, 0, 0);
     x.kind(3, 5, 10, 0, 4025);
     dueDuds("another colour", x, 1, 1, 2);
+  }
+
+  private static void eachColour() {
+    for (int colour = 1; colour <= 9; colour++) {
+      for (int late = 0; late <= 5; late++) {
+        LightScript x = desk();
+        x.kind(5, 5, 50, 0, 7000 + 10 * colour + late);
+        write(x, 2, 2, 1, 5, 0, 0, 0);
+        for (int other = 1; other <= 9; other++) {
+          x.seen(20 + late + (other == colour ? 1 : 0), other);
+        }
+        dueDuds("none of colour " + colour + " in time", x, 1, 9, 2);
+        x.seen(20 + late, colour);
+        dueDuds("one of colour " + colour, x, 0, 9, 0);
+      }
+    }
+  }
+
+  /** Each of the three asks the show as it is now, whichever is asked first. */
+  private static void eachAskedFirst() {
+    LightScript x = desk();
+    write(x, 2, 2, 1, 0, 0, 0, 0);
+    x.seen(20, 1);
+    due("dud asked first", x.dud(0), 0);
+    x.halt(0);
+    due("dud, halted", x.dud(0), -2);
+    x.halt(-1);
+    due("dud, no halt", x.dud(0), 0);
+    x.halt(0);
+    due("strange, halted", x.strange(), 1);
+    x.halt(-1);
+    due("strange, no halt", x.strange(), 0);
+    x.halt(0);
+    due("duds, halted", x.duds(), 0);
+    x.unseen();
+    x.halt(-1);
+    due("duds, no halt", x.duds(), 1);
   }
 
   private static void asStretched() {
