@@ -2,7 +2,8 @@ import java.util.Arrays;
 
 /**
  * A desk for a night of lights in the air over water: a show is written in a small language and
- * becomes cues, which are laid to barges, held or replaced by the winds known, and watched for duds.
+ * becomes cues, which are laid to barges, held or replaced by the winds known, and watched for
+ * duds.
  *
  * <p>All rows are made once, in the constructors, and used again: no call makes an object but for
  * the exceptions that the document names.
@@ -1324,7 +1325,8 @@ public final class LightScript {
 
     /** The RULES that hold, kept as their orders without the 0 at the end. */
     private static final class Rules {
-        private static final int IF_FIRE = 1, IF_MISFIRES = 2, IF_WIND = 3, IF_BARGE = 4, IF_KIND = 5;
+        private static final int IF_FIRE = 1, IF_MISFIRES = 2, IF_WIND = 3;
+        private static final int IF_BARGE = 4, IF_KIND = 5;
         private static final int BOTH = 6, EITHER = 7, INVERSE = 8;
 
         private final int[] orders = new int[RULES * RULE_ORDERS];

@@ -176,9 +176,11 @@ public final class LayTest {
     due("lay, fixed ones close", x.lay(0), 2);
     dueBarges("fixed ones close", x, 0, 0, 1);
     write(x, 2, 1, 1, 0, 0, 0, 1, 0, -1, 0, 0);
+    due("proof, close to one fixed", proof(x, 0, 0), -100);
     due("lay, close to one fixed", x.lay(0), 1);
     dueBarges("close to one fixed", x, 0, 1);
     write(x, 2, 1, 1, 0, -1, 0, 1, 0, 0, 0, 0);
+    due("proof, close to one fixed behind", proof(x, 0, 0), -100);
     due("lay, close to one fixed behind", x.lay(0), 1);
     dueBarges("close to one fixed behind", x, 1, 0);
     write(x, 2, 1, 1, 0, -1, 0, 8, 1, 2, 1, 1, 0, 1, 0, 1, 0, 0, 0, 0);
