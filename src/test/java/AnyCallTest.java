@@ -2,26 +2,29 @@ import java.util.Random;
 
 /**
  * Every call with any arguments in any state: none throws but what the document names, and none
- * takes long. Runs are of 512 calls, as an object is used for.
+ * takes long. Runs are of up to 512 calls, as an object is used for.
  */
 public final class AnyCallTest {
   private static final int[] EDGES = {Integer.MIN_VALUE, Integer.MIN_VALUE + 1, -20000, -201, -101,
       -16, -6, -2, 99, 100, 101, 119, 120, 121, 1010, 4012, 8021, 20000, 20001, 20010, 99095,
       1 << 16, 1 << 30, Integer.MAX_VALUE - 1, Integer.MAX_VALUE};
+  private static final int KINDS_OF_CALLS = 45, CALLS_OF_A_ROW = 17;
   private static int wrong = 0;
 
   public static void main(String[] args) {
-    for (int seed = 0; seed < 3000 && wrong < 10; seed++) {
+    for (int seed = 0; seed < 5000 && wrong < 10; seed++) {
       Random dice = new Random(seed);
       LightScript x = new LightScript();
-      for (int i = 0; i < 512 && wrong < 10; i++) {
-        int call = dice.nextInt(45);
+      int calls = 0;
+      while (calls <= 512 - CALLS_OF_A_ROW && wrong < 10) {
+        int call = dice.nextInt(KINDS_OF_CALLS);
         try {
           call(x, dice, call);
         } catch (RuntimeException e) {
           wrong++;
-          System.out.println("seed " + seed + ", call " + i + " of " + call + " threw " + e);
+          System.out.println("seed " + seed + ", call " + calls + " of " + call + " threw " + e);
         }
+        calls += isRow(call) ? CALLS_OF_A_ROW : 1;
       }
     }
     widest();
@@ -113,7 +116,11 @@ public final class AnyCallTest {
     }
   }
 
-  /** A row that has a chance to be one of orders. */
+  private static boolean isRow(int call) {
+    return call == 41 || call > 42;
+  }
+
+  /** A row that has a chance to be one of orders; so many calls as CALLS_OF_A_ROW. */
   private static void row(LightScript x, Random dice) {
     int d = dice.nextInt(6);
     x.tape(d, 1, 4 + dice.nextInt(12));

@@ -126,6 +126,7 @@ public final class CueEdgeTest {
     stretchBelow0();
     stretchAbove20000();
     placeNumbers();
+    whatGoesWithTheCues();
     System.out.println(wrong == 0 ? "all answers are as due" : wrong + " answers are not as due");
     if (wrong != 0) {
       System.exit(1);
@@ -699,5 +700,62 @@ public final class CueEdgeTest {
     }
     x.barge(2, 30, 30, 1);
     due("place on one told then", x.place(0, 2), 0);
+  }
+
+  /** The HALT, G, the READINGS, the RULES stay; FAULTS and SEEN are gone or not. */
+  private static void dueThen(String name, LightScript x, boolean gone) {
+    due(name + ": SEEN", x.unseen(), gone ? 0 : 2);
+    for (int c = 0; c < 3; c++) {
+      due(name + ": fault of " + c, x.fault(c, 4 + c), gone ? 0 : 4 + c);
+    }
+    due(name + ": halt", x.halt(77), 77);
+    due(name + ": apart", x.apart(9), 9);
+    due(name + ": READINGS", x.count(4), 1);
+    due(name + ": WIND KNOWN", x.knows(5), 3);
+    due(name + ": RULES", x.count(5), 1);
+    due(name + ": KINDS", x.count(0), 2);
+    due(name + ": BARGES", x.count(1), 3);
+    due(name + ": a TAPE", x.at(1, 0), 1);
+    x.seen(10, 1);
+    x.seen(11, 2);
+  }
+
+  // "(those of before are gone, also FAULTS and SEEN)": by write and back, by nothing else.
+  private static void whatGoesWithTheCues() {
+    LightScript x = desk();
+    int[] three = {2, 1, 3, 0, 0, 3, 0};
+    write(x, three);
+    x.keep(2);
+    x.apart(9);
+    x.halt(77);
+    x.meter(3, 5, 5);
+    x.tape(1, 1, 3);
+    x.put(1, 0, 1);
+    x.put(1, 1, 127);
+    due("hold", x.hold(1), 0);
+    dueThen("at first", x, true);
+    dueThen("nothing done", x, false);
+    due("stretch", x.stretch(0, 2, 1), 3);
+    dueThen("stretch", x, false);
+    due("place", x.place(0, 1), 0);
+    dueThen("place", x, false);
+    due("keep", x.keep(3), 3);
+    dueThen("keep", x, false);
+    due("kind", x.kind(0, 6, 50, 0, 1010), 0);
+    dueThen("kind", x, false);
+    due("barge", x.barge(0, 7, 7, 3), 0);
+    dueThen("barge", x, false);
+    due("a fault", write(x, 9), -100);
+    dueThen("a fault", x, false);
+    due("write", write(x, three), 3);
+    dueThen("write", x, true);
+    due("back", x.back(3), 3);
+    dueThen("back", x, true);
+    due("back", x.back(2), 3);
+    dueThen("back to another", x, true);
+    due("burst", cue(x, 0, 0), 10);
+    due("fewer", write(x, 2, 1, 1, 0, 0, 0, 0), 1);
+    due("as many again", write(x, three), 3);
+    dueThen("write", x, true);
   }
 }

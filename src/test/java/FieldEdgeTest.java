@@ -34,6 +34,7 @@ public final class FieldEdgeTest {
     windNumbers();
     driftFrom50To50();
     windsAreStillAtFirst();
+    windsForAll();
     anglesFrom4To4();
     embersFrom0To4();
     cellOfAPlace();
@@ -420,6 +421,12 @@ public final class FieldEdgeTest {
       int nearY = at[1] == 31 ? 24 : at[1] == 0 ? 7 : at[1];
       x.cell(nearX, nearY, 2);
       due("may at the rim, a crowd in reach", x.may(0, 0), 0);
+      x.cell(nearX, nearY, 0);
+      due("may at the rim, none again", x.may(0, 0), 1);
+      x.cell(at[0], at[1], 2);
+      due("may at the rim, a crowd in its own cell", x.may(0, 0), 0);
+      x.kind(0, 5, 10, 0, 1010);
+      due("may at the rim, a crowd in its own cell", x.may(0, 0), 0);
     }
   }
 
@@ -469,21 +476,57 @@ public final class FieldEdgeTest {
     }
   }
 
+  // Embers at 3390 and 3200 are 10 and none short of other cells, so 20 ticks by 1 would be seen.
   private static void windsAreStillAtFirst() {
     LightScript x = new LightScript();
-    for (int turn = 0; turn < 2; turn++) {
-      x.kind(0, 5, 247, 0, 99010);
+    for (int turn = 0; turn < 3; turn++) {
+      x.kind(0, 5, 247, 9, 99010);
+      x.kind(11, 5, 247, 10, 99010);
       x.barge(0, 16, 16, 1);
       for (int w = 0; w < 4; w++) {
-        due("still in all layers", x.hot(0, 0, 0, w, 0), 32 * 16 + 16);
+        due("still in all layers, middle", x.hot(0, 0, 0, w, 0), 32 * 16 + 16);
+        due("still in all layers, to greater X", x.hot(0, 0, 0, w, 1), 32 * 16 + 16);
+        due("still in all layers, to lesser X", x.hot(11, 0, 0, w, 2), 32 * 16 + 16);
+        due("still in all layers, to greater Y", x.hot(0, 0, 0, w, 3), 32 * 16 + 16);
+        due("still in all layers, to lesser Y", x.hot(11, 0, 0, w, 4), 32 * 16 + 16);
       }
       for (int i = 0; i < 20; i++) {
         x.wind(i / 5, i % 5, 50, -50);
       }
       for (int w = 0; w < 4; w++) {
         due("blown far", x.hot(0, 0, 0, w, 0), -3);
+        due("blown far", x.hot(11, 0, 0, w, 0), -3);
       }
       x.begin();
+    }
+  }
+
+  // A WIND told blows for each KIND and from each BARGE, those told before it too.
+  private static void windsForAll() {
+    for (int turn = 0; turn < 2; turn++) {
+      LightScript x = new LightScript();
+      if (turn == 1) {
+        x.wind(2, 0, -50, 50);
+      }
+      for (int k = 0; k < 12; k++) {
+        x.kind(k, 5, 10 + k, 0, 9010);
+      }
+      for (int s = 0; s < 6; s++) {
+        x.barge(s, 5 * s + 3, 16, 1);
+      }
+      if (turn == 0) {
+        x.wind(2, 0, -50, 50);
+      }
+      for (int i = 0; i < 72; i++) {
+        int k = i / 6;
+        int s = i % 6;
+        // 10 and 10 for each number fall in so many ticks of 25.
+        int off = 50 * ((100 + 10 * k + 24) / 25);
+        int at = 1000 * s + 700;
+        due("still", x.hot(k, s, 0, 1, 0), 32 * 16 + at / 200);
+        due("blown", x.hot(k, s, 0, 2, 0), 32 * ((3300 + off) / 200) + (at - off) / 200);
+        due("safe", x.safe(k, s, 0, 2), 1);
+      }
     }
   }
 
@@ -762,6 +805,15 @@ public final class FieldEdgeTest {
         due("at " + angle, x.hot(0, 0, angle, 0, 4), 32 * 13 + at / 200);
       }
     }
+    // Y 3200 is the least of its cell: an ANGLE doesn't move it out of it.
+    x.kind(0, 5, 10, 10, 4010);
+    x.kind(1, 5, 10, 9, 4010);
+    for (int angle = -4; angle <= 4; angle++) {
+      due("Y 3200 at " + angle, x.hot(0, 0, angle, 0, 4), 32 * 16 + 16);
+      due("Y 3390 at " + angle, x.hot(1, 0, angle, 0, 3), 32 * 16 + 16);
+      due("Y 3400 at " + angle, x.hot(0, 0, angle, 0, 3), 32 * 17 + 16);
+      due("Y 3210 at " + angle, x.hot(1, 0, angle, 0, 4), 32 * 16 + 16);
+    }
   }
 
   // "It is SAFE in a WIND if all that land HOT do so on WATER, and ... none does on CROWD."
@@ -842,6 +894,42 @@ public final class FieldEdgeTest {
       }
       due("apart after begin", x.apart(2), 2);
       due("halt after begin", x.halt(-1), -1);
+    }
+    for (int turn = 0; turn < 3; turn++) {
+      LightScript x = new LightScript();
+      x.kind(0, 5, 10, 0, 4010);
+      x.barge(0, 5, 5, 9);
+      x.tape(0, 1, 10);
+      int[] orders = {2, 2, 3, 0, 0, 2};
+      int[] rule = {1, 0};
+      for (int i = 0; i < 6; i++) {
+        x.put(0, i, orders[i]);
+      }
+      x.tape(1, 1, 3);
+      x.put(1, 0, rule[0]);
+      due("write", x.write(0), 2);
+      due("hold", x.hold(1), 0);
+      due("meter", x.meter(1, 0, 0), 1);
+      due("seen", x.seen(20, 1), 1);
+      due("fault", x.fault(0, 6) + x.fault(1, 5), 0);
+      due("put", x.put(0, 10, 1), -13);
+      due("begin", x.begin(), 0);
+      for (int what = 0; what <= 7; what++) {
+        due("count(" + what + ") after begin", x.count(what), 0);
+      }
+      due("knows after begin", x.knows(0), 0);
+      due("fate after begin", x.fate(0), -1);
+      due("unseen after begin", x.unseen(), 0);
+      due("holdless after begin", x.holdless(), 0);
+      x.kind(0, 5, 10, 0, 4010);
+      x.barge(0, 5, 5, 9);
+      due("write after begin", x.write(0), 2);
+      due("no RULE, no FAULTS", x.many(0), 2);
+      due("no FAULTS", x.fault(0, 0) + x.fault(1, 0), 0);
+      due("no SEEN", x.duds(), 2);
+      due("hold after begin", x.hold(1), 0);
+      due("meter after begin", x.meter(1, 0, 0), 1);
+      due("seen after begin", x.seen(20, 1), 1);
     }
   }
 }

@@ -79,6 +79,11 @@ public final class LayEdgeTest {
     leastGreatest();
     firstInOrder();
     fillsWhatLay();
+    firstGivesWay();
+    eachPairOfEight();
+    fixedOnEachBarge();
+    hundredTwentyOnOne();
+    laysBargesAlone();
     proofTapes();
     proofOpenOnes();
     proofTooFew();
@@ -428,6 +433,147 @@ public final class LayEdgeTest {
     x.place(5, -1);
     due("lay again", x.lay(0), 3);
     dueBarges("lay again", x, 1, 0, 0, 1, 1, 0);
+  }
+
+  // The first ones may go on the first barge, but a later one can't go elsewhere.
+  private static void firstGivesWay() {
+    for (int cues = 2; cues <= 8; cues++) {
+      // The last, of HEIGHT 80, isn't HELD by barge 1; the others are, and are close to it.
+      LightScript x = desk(40, 40);
+      x.kind(1, 5, 80, 0, 1010);
+      x.cell(7, 18, 2);
+      x.apart(0);
+      int[] row = new int[4 * cues + 3];
+      row[0] = 2;
+      row[1] = 1;
+      for (int c = 0; c < cues; c++) {
+        row[2 + 4 * c] = 1;
+        row[3 + 4 * c] = c == cues - 1 ? 1 : 0;
+        row[4 + 4 * c] = -1;
+      }
+      due("write", write(x, row), cues);
+      x.apart(1);
+      due("lay " + cues + " at once on two", x.lay(0), cues == 2 ? 1 : -3);
+      dueBarges("at once on two", x, cues == 2 ? 1 : -1, cues == 2 ? 0 : -1);
+      x.apart(0);
+      for (int c = 0; c < cues; c++) {
+        x.place(c, -1);
+      }
+      // Barge 0 with one channel: all the others go on barge 1.
+      x.barge(0, 2, 16, 1);
+      due("lay " + cues + ", one channel", x.lay(0), cues - 1);
+      for (int c = 0; c < cues; c++) {
+        due("barge of " + c, x.cue(c, 2), c == cues - 1 ? 0 : 1);
+      }
+    }
+    // By the least greatest: 0 and 1 may go anywhere, 2 and 3 on barge 0 alone.
+    LightScript x = desk(40, 40);
+    x.kind(1, 5, 80, 0, 1010);
+    x.cell(7, 18, 2);
+    write(x, 2, 1, 1, 0, -1, 0, 2, 1, 1, 0, -1, 0, 2, 1, 1, 1, -1, 0, 2, 1, 1, 1, -1, 0, 0);
+    due("lay", x.lay(4), 2);
+    dueBarges("lay", x, 1, 1, 0, 0);
+  }
+
+  // Of eight each pair that is too close is seen: b, of a longer LIFT, FIRES as a does.
+  private static void eachPairOfEight() {
+    for (int a = 0; a < 8; a++) {
+      for (int b = a + 1; b < 8; b++) {
+        LightScript x = desk(40, 0);
+        x.kind(1, 5 + 7 * (b - a), 50, 0, 1010);
+        int[] eight = open(8);
+        eight[6 * b + 3] = 1;
+        int[] row = new int[eight.length + 4];
+        row[0] = 8;
+        row[1] = 7;
+        row[2] = 2;
+        row[3] = 7;
+        System.arraycopy(eight, 0, row, 4, eight.length);
+        String name = a + " and " + b + " alike";
+        due("write, " + name, write(x, row), 8);
+        due("FIRES, " + name, x.cue(a, 4), x.cue(b, 4));
+        due("lay on one, " + name, x.lay(0), -3);
+        int[] barges = new int[8];
+        due("proof on one, " + name, proof(x, 0, barges), -100 - b);
+        x.barge(1, 7, 16, 1);
+        barges[a] = 1;
+        due("proof on two, " + name, proof(x, 0, barges), 7);
+        due("lay on two, " + name, x.lay(0), 7);
+        for (int c = 0; c < 8; c++) {
+          due("barge of " + c + ", " + name, x.cue(c, 2), c == b ? 1 : 0);
+        }
+      }
+    }
+  }
+
+  private static void fixedOnEachBarge() {
+    for (int s = 0; s < 6; s++) {
+      LightScript x = desk(3, 3, 3, 3, 3, 3);
+      write(x, open(5));
+      for (int c = 0; c < 3; c++) {
+        x.place(c, s);
+      }
+      due("OPEN ones", x.count(3), 2);
+      for (int t = 0; t < 6; t++) {
+        due("proof beside three on " + s, proof(x, 4, t, t), t == s ? -100 : 3);
+      }
+      due("lay beside three on " + s, x.lay(4), 3);
+      dueBarges("beside three on " + s, x, s, s, s, s == 0 ? 1 : 0, s == 0 ? 1 : 0);
+      // The fixed ones are close to one that is OPEN.
+      write(x, 2, 1, 3, 0, s, 2, 1, 0, -1, 0, 0);
+      for (int t = 0; t < 6; t++) {
+        due("proof close to " + s, proof(x, 4, t), t == s ? -100 : 2);
+      }
+      due("lay close to " + s, x.lay(4), 2);
+      dueBarges("close to " + s, x, s, s, s == 0 ? 1 : 0);
+    }
+  }
+
+  private static void hundredTwentyOnOne() {
+    for (int s = 0; s < 6; s += 5) {
+      LightScript x = desk(1, 1, 1, 1, 1, 1);
+      due("write", write(x, 2, 1, 6, 8, 6, 5, 3, 0, s, 3, 7, 7, 0), 120);
+      due("lay none of 120", x.lay(4), 120);
+      due("proof of none of 120", proof(x, 4), 120);
+      x.place(60, -1);
+      x.apart(0);
+      due("proof of one of 120", proof(x, 4, 1), 119);
+      due("proof of one of 120", proof(x, 4, s), -100);
+      due("lay one of 120", x.lay(4), 119);
+      due("its barge", x.cue(60, 2), s == 0 ? 1 : 0);
+    }
+  }
+
+  // "the OPEN CUES get its BARGES": nothing else is changed, by proof nothing at all.
+  private static void laysBargesAlone() {
+    LightScript x = desk(3, 3);
+    write(x, open(5));
+    x.place(2, 1);
+    for (int c = 0; c < 5; c++) {
+      x.fault(c, c + 2);
+    }
+    x.halt(777);
+    x.meter(1, 5, 5);
+    x.apart(1);
+    row(x, 2, 1, 9, 0);
+    x.hold(2);
+    x.seen(9, 9);
+    for (int turn = 0; turn < 2; turn++) {
+      due("proof or lay", turn == 0 ? proof(x, 4, 0, 0, 1, 1) : x.lay(4), 3);
+      dueBarges("then", x, turn - 1, turn - 1, 1, turn - 1, turn == 0 ? -1 : 1);
+      for (int c = 0; c < 5; c++) {
+        due("fault " + c, x.fault(c, c + 2), c + 2);
+        due("burst " + c, x.cue(c, 0), 10 + 10 * c);
+        due("kind " + c, x.cue(c, 1), 0);
+        due("angle " + c, x.cue(c, 3), 0);
+      }
+      due("halt", x.halt(777), 777);
+      due("apart", x.apart(1), 1);
+      int[] want = {1, 2, 5, turn == 0 ? 4 : 0, 1, 1, 1, 0};
+      for (int what = 0; what <= 7; what++) {
+        due("count(" + what + ")", x.count(what), want[what]);
+      }
+    }
   }
 
   // "NONE: no such TAPE", "NOTHING; CAST"

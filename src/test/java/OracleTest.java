@@ -11,7 +11,7 @@ public final class OracleTest {
   private static int wrong = 0;
 
   public static void main(String[] args) {
-    int runs = args.length > 0 ? Integer.parseInt(args[0]) : 1500;
+    int runs = args.length > 0 ? Integer.parseInt(args[0]) : 1800;
     for (int seed = 0; seed < runs && wrong < 10; seed++) {
       new Run(seed).go();
     }
@@ -653,7 +653,8 @@ public final class OracleTest {
 
     void go() {
       setUp();
-      while (told.size() < 480 && wrong < 10) {
+      // A step makes some hundred calls at most, an object is used for 512.
+      while (told.size() < 400 && wrong < 10) {
         step();
       }
     }

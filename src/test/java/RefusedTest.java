@@ -12,10 +12,9 @@ public final class RefusedTest {
   private static final long ISE = Long.MIN_VALUE + 2;
   private static final int MIN = Integer.MIN_VALUE;
   private static final int MAX = Integer.MAX_VALUE;
-  /** An object is used for 512 calls: a desk takes less than 200, one call is tried. */
+  /** An object is used for 512 calls: a desk takes less than 200, the call that is tried one. */
   private static final int ASKED_OF_ONE = 300;
   private static int wrong = 0;
-  private static int tried = 0;
 
   private interface Call {
     long on(LightScript x);
@@ -167,7 +166,6 @@ public final class RefusedTest {
 
   /** The answer is as due, counted if it is a refusal of the host's, and changes nothing. */
   private static void dueRefused(String name, Desk desk, long want, Call call) {
-    tried++;
     LightScript x = new LightScript();
     desk.make(x);
     int refusals = x.count(7);
@@ -175,9 +173,7 @@ public final class RefusedTest {
     due(name + ", then count(7)", x.count(7), refusals + (want >= -15 && want <= -11 ? 1 : 0));
     due(name + " again", answer(x, call), want);
     dueAlike(name, desk, call, ALL);
-    if (tried % 8 == 0) {
-      dueAlike(name, desk, call, GROUND);
-    }
+    dueAlike(name, desk, call, GROUND);
   }
 
   // Desks.
@@ -553,9 +549,7 @@ public final class RefusedTest {
   private static void fullRefused() {
     Desk full = RefusedTest::allFull;
     dueRefused("meter FULL", full, -2, x -> x.meter(3, 15, 15));
-    dueRefused("hold FULL", full, -2, x -> {
-      return x.hold(1);
-    });
+    dueRefused("hold FULL", full, -2, x -> x.hold(1));
     dueRefused("seen FULL", full, -2, x -> x.seen(20, 1));
     dueRefused("meter NONE", full, -1, x -> x.meter(3, 15, 14));
     dueRefused("hold CAST", full, -12, x -> x.hold(2));

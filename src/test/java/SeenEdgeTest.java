@@ -67,6 +67,9 @@ public final class SeenEdgeTest {
     noneToTwo();
     aGreatestHasTheMost();
     maybeByAChain();
+    toldInAnyOrder();
+    theLastOf120();
+    askedAtAnyTime();
     noCues();
     goneWithOtherCues();
     System.out.println(wrong == 0 ? "all answers are as due" : wrong + " answers are not as due");
@@ -326,13 +329,13 @@ public final class SeenEdgeTest {
 
   // "a greatest one has the most": it isn't enough to give each the first that is free.
   private static void aGreatestHasTheMost() {
-    LightScript x = desk();
-    x.kind(1, 5, 50, 0, 1015);
-    x.kind(2, 5, 50, 0, 1010);
     // CUE 0 (LATE 5), CUE 1 (LATE 2), CUE 2 (LATE 0), all at 100; in each order of those told.
     int[][] kinds = {{1, 0, 2}, {1, 2, 0}, {0, 1, 2}, {0, 2, 1}, {2, 0, 1}, {2, 1, 0}};
     int[][] ticks = {{100, 98, 95}, {95, 98, 100}, {98, 100, 105}, {105, 102, 100}, {100, 105, 98}};
     for (int[] k : kinds) {
+      LightScript x = desk();
+      x.kind(1, 5, 50, 0, 1015);
+      x.kind(2, 5, 50, 0, 1010);
       write(x, 2, 10, 1, k[0], 0, 0, 1, k[1], 0, 0, 1, k[2], 0, 0, 0);
       for (int[] t : ticks) {
         sees(x, 1, t);
@@ -382,6 +385,76 @@ public final class SeenEdgeTest {
     dueDuds("two for three", x, 2, 0, 1, 1, 1, 2);
     sees(x, 1, 97, 103, 115);
     dueDuds("two strange ones", x, 3, 2, 2, 0, 2, 2);
+  }
+
+  // A BURST is told when it is told, not in the order of its TICK.
+  private static void toldInAnyOrder() {
+    int[][] orders = {{0, 1, 2}, {0, 2, 1}, {1, 0, 2}, {1, 2, 0}, {2, 0, 1}, {2, 1, 0}};
+    // CUES at 100, 104 and 108, all LATE 2: each has its own only if the least TICK goes first.
+    int[][] ticks = {{98, 102, 106}, {102, 106, 110}, {98, 102, 110}, {98, 106, 110}};
+    for (int[] t : ticks) {
+      for (int[] o : orders) {
+        LightScript x = desk();
+        write(x, 2, 10, 8, 4, 6, 3, 1, 0, 0, 0, 2, 1, 7, 0);
+        sees(x, 1, t[o[0]], t[o[1]], t[o[2]]);
+        dueDuds("in any order", x, 0, 0, 0, 0, 0);
+      }
+    }
+    LightScript x = desk();
+    write(x, 2, 10, 8, 4, 6, 3, 1, 0, 0, 0, 2, 1, 7, 0);
+    sees(x, 1, 102, 98);
+    dueDuds("backwards", x, 1, 0, 0, 0, 2);
+    sees(x, 1, 106, 102, 98, 94);
+    dueDuds("backwards", x, 0, 1, 0, 0, 0);
+  }
+
+  private static void theLastOf120() {
+    LightScript x = desk();
+    x.kind(1, 5, 50, 0, 1090);
+    // 119 of COLOUR 1 at 100, the last of COLOUR 9.
+    due("write", write(x, 2, 10, 6, 7, 6, 8, 3, 0, 0, 2, 7, 7, 3, 0, 0, 5, 3, 0, 0, 2, 1, 1, 0, 0,
+        0), 120);
+    due("dud(119), none SEEN", x.dud(119), 2);
+    x.seen(100, 9);
+    for (int turn = 0; turn < 2; turn++) {
+      due("duds", x.duds(), 119);
+      due("strange", x.strange(), 0);
+      due("dud(119)", x.dud(119), 0);
+      due("dud(118)", x.dud(118), 2);
+    }
+    x.seen(100, 1);
+    due("duds", x.duds(), 118);
+    due("dud(118)", x.dud(118), 1);
+    due("dud(119)", x.dud(119), 0);
+    for (int c = 0; c < 119; c++) {
+      x.fault(c, c % 7);
+    }
+    due("duds", x.duds(), 118);
+    x.place(119, -1);
+    due("duds", x.duds(), 118);
+    due("strange", x.strange(), 1);
+    due("dud(119)", x.dud(119), -2);
+  }
+
+  // Each of the three goes by what is told now, whichever was asked before.
+  private static void askedAtAnyTime() {
+    for (int turn = 0; turn < 3; turn++) {
+      LightScript x = desk();
+      write(x, 2, 10, 1, 0, 0, 0, 0);
+      x.seen(100, 1);
+      for (int halt : new int[] {-1, 95, 96, 0, -1}) {
+        x.halt(halt);
+        boolean halted = halt >= 0 && halt <= 95;
+        long[] got = new long[3];
+        for (int i = 0; i < 3; i++) {
+          int which = (i + turn) % 3;
+          got[which] = which == 0 ? x.duds() : which == 1 ? x.strange() : x.dud(0);
+        }
+        due("duds, HALT " + halt, got[0], 0);
+        due("strange, HALT " + halt, got[1], halted ? 1 : 0);
+        due("dud, HALT " + halt, got[2], halted ? -2 : 0);
+      }
+    }
   }
 
   private static void noCues() {

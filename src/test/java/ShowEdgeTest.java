@@ -103,6 +103,8 @@ public final class ShowEdgeTest {
     manyOfEach();
     orderByFire();
     orderOf120();
+    rulesOfTwentyOrders();
+    asToldNow();
     System.out.println(wrong == 0 ? "all answers are as due" : wrong + " answers are not as due");
     if (wrong != 0) {
       System.exit(1);
@@ -725,5 +727,100 @@ public final class ShowEdgeTest {
       last = c;
     }
     due("order(120)", x.order(120), -1);
+  }
+
+  private static void rulesOfTwentyOrders() {
+    for (int n = 17; n <= 20; n++) {
+      LightScript x = desk();
+      one(x, 0, 110);
+      int[] row = new int[n + 2];
+      row[0] = 4;
+      for (int i = 2; i <= n; i++) {
+        row[i] = 8;
+      }
+      // BARGE 0, turned n - 1 times; so in the first place and in the last.
+      for (int r = 0; r < 8; r++) {
+        row[1] = 0;
+        rule(x, row);
+        due(n + " ORDERS", x.fate(0), n % 2 == 1 ? 3 : 0);
+        row[1] = 1;
+        rule(x, row);
+        due(n + " ORDERS", x.fate(0), n % 2 == 1 ? 0 : 3);
+      }
+      x.holdless();
+      row(x, 1, 4, 1, 0);
+      for (int r = 0; r < 7; r++) {
+        due("hold", x.hold(1), r);
+      }
+      row[1] = n % 2 == 1 ? 0 : 1;
+      row(x, 1, row);
+      due("hold", x.hold(1), 7);
+      due(n + " ORDERS of the eighth RULE", x.fate(0), 3);
+    }
+  }
+
+  private static void dueNow(String name, LightScript x, int fate) {
+    due(name + ": many(" + fate + ")", x.many(fate), 1);
+    due(name + ": fate", x.fate(0), fate);
+    due(name + ": goes", goes(x, 0, 2), fate <= 1 ? x.cue(0, 0) : ISE);
+    due(name + ": fate", x.fate(0), fate);
+    due(name + ": dud", x.dud(0), fate == 0 || fate == 1 || fate == 5 ? 2 : -2);
+  }
+
+  // THE SHOW is asked again after each thing that is told: it goes by what is told now.
+  private static void asToldNow() {
+    LightScript x = desk();
+    one(x, 0, 110);
+    x.keep(3);
+    dueNow("written", x, 0);
+    x.cell(10, 10, 1);
+    dueNow("cell", x, 2);
+    x.kind(1, 10, 50, 0, 1010);
+    dueNow("another kind", x, 1);
+    x.kind(1, 10, 50, 0, 1020);
+    dueNow("another kind anew", x, 2);
+    x.kind(0, 10, 10, 0, 3010);
+    dueNow("its kind anew", x, 0);
+    x.kind(0, 10, 10, 0, 4010);
+    dueNow("its kind anew", x, 2);
+    x.barge(0, 10, 11, 40);
+    dueNow("its barge anew", x, 0);
+    x.wind(0, 0, 0, -50);
+    dueNow("the wind", x, 2);
+    x.meter(1, 0, 100);
+    dueNow("a reading", x, 0);
+    x.wind(1, 0, 0, -50);
+    dueNow("that wind", x, 2);
+    x.place(0, -1);
+    dueNow("place", x, 6);
+    x.barge(0, 10, 10, 40);
+    due("lay", x.lay(1), 1);
+    dueNow("lay", x, 0);
+    x.fault(0, 6);
+    dueNow("fault", x, 5);
+    rule(x, 1, 10, 0);
+    dueNow("hold", x, 3);
+    x.halt(100);
+    dueNow("halt", x, 4);
+    due("stretch", x.stretch(109, 1, 2), 1);
+    dueNow("stretch", x, 5);
+    x.halt(99);
+    dueNow("halt", x, 4);
+    x.halt(-1);
+    dueNow("halt", x, 5);
+    x.fault(0, 0);
+    due("stretch", x.stretch(108, 2, 1), 1);
+    dueNow("stretch", x, 3);
+    x.holdless();
+    dueNow("holdless", x, 0);
+    x.fault(0, 6);
+    due("back", x.back(3), 1);
+    dueNow("back", x, 0);
+    x.fault(0, 6);
+    one(x, 0, 110);
+    dueNow("write", x, 0);
+    x.begin();
+    due("begin", x.many(0), 0);
+    due("begin", x.fate(0), -1);
   }
 }

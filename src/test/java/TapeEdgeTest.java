@@ -542,8 +542,12 @@ public final class TapeEdgeTest {
       due("no CUES", x.count(2), 0);
       if (told == 15) {
         x.kind(0, 20, 50, 0, 1010);
-        due("back, one is EARLY", x.back(1), -5);
+        due("back, the others are EARLY", x.back(1), -5);
+        x.kind(0, 21, 50, 0, 1010);
         x.kind(1, 20, 50, 0, 1010);
+        due("back, the first is EARLY", x.back(1), -5);
+        due("no CUES", x.count(2), 0);
+        x.kind(0, 20, 50, 0, 1010);
         due("back", x.back(1), 3);
       }
     }
@@ -609,14 +613,14 @@ public final class TapeEdgeTest {
       due("count(" + what + ")", x.count(what), 0);
     }
     for (int k = 0; k < 12; k++) {
-      x.kind(11 - k, 5, 50, 0, 1010);
+      x.kind(11 - k, k % 2 == 0 ? 1 : 60, 50, 0, 1010);
       due("KINDS", x.count(0), k + 1);
     }
     for (int s = 0; s < 6; s++) {
-      x.barge(5 - s, 5, 5, 9);
+      x.barge(5 - s, 0, 31, s % 2 == 0 ? 1 : 40);
       due("BARGES", x.count(1), s + 1);
     }
-    row(x, 0, 1, 2, 2, 3, 0, -1, 5, 3, 0, 0, 4, 0);
+    row(x, 0, 1, 2, 6, 3, 0, -1, 5, 3, 0, 0, 4, 0);
     x.write(0);
     due("CUES", x.count(2), 9);
     due("OPEN ones", x.count(3), 5);
